@@ -82,7 +82,8 @@ public final class ModelTest {
     }
 
     private int moisture() {
-        return dice.below(60) == 0 ? dice.oneOf(49, 301) : dice.oneOf(140, 141, 180, 181, 300, dice.from(50, moistures));
+        return dice.below(60) == 0 ? dice.oneOf(49, 301)
+                : dice.oneOf(140, 141, 180, 181, 300, dice.from(50, moistures));
     }
 
     private int weight() {

@@ -20,6 +20,7 @@ public final class PromisesTest {
         reweighToLess();
         reweighTakesFromOthers();
         reweighTakesByContract();
+        reweighByOneKilogram();
         reweighOfASiloThatIsAnother();
         reweighRefuses();
         contract();
@@ -30,6 +31,7 @@ public final class PromisesTest {
         pass();
         shrinkage();
         shrinkageOfLargeNumbers();
+        shrinkageOfOneKilogram();
         dayInItsOrder();
         receiptTells();
         receipts();
@@ -85,6 +87,12 @@ public final class PromisesTest {
         x.takeOut(0);
         x.reweigh(0, 200);
         c.due("new fair price is 20", x.account(1), 70 * 20);
+        Grainledger large = withSilos(1000000);
+        for (int i = 0; i < 25; i++) {
+            large.deliver(0, 0, 40000, 140);
+        }
+        large.pass(1);
+        c.due("new rate is 0 for a full silo too", large.ofSilo(0, 0), 1000000);
     }
 
     // ---- Promise 2
@@ -493,6 +501,41 @@ public final class PromisesTest {
         c.due("but it is taken", own.receipt(0, 0), 900);
     }
 
+    private static void reweighByOneKilogram() {
+        Grainledger x = withSilos(10000);
+        x.deliver(0, 0, 100, 140);
+        x.deliver(0, 0, 100, 140);
+        x.split(1, 99);
+        x.takeOut(2);
+        x.takeOut(0);
+        c.due("one kilogram in the silo", x.ofSilo(0, 0), 1);
+        c.due("it is not empty", x.ofSilo(0, 1), 0);
+        c.due("it is held", x.holds(0, 0, 0), 1);
+        c.due("one kilogram less", x.reweigh(0, 141), -1);
+        c.due("the last one of another delivery", x.receipt(1, 0), 0);
+        c.due("nothing is owed", x.owes(0), 0);
+        c.due("the silo is empty", x.ofSilo(0, 1), -1);
+        x.deliver(0, 0, 100, 140);
+        c.due("one kilogram more", x.reweigh(0, 140), 1);
+        c.due("is a receipt", x.receipt(4, 0), 1);
+        c.due("which is taken first again", x.reweigh(0, 141), -1);
+        c.due("so it has nothing", x.receipt(4, 0), 0);
+        c.due("one kilogram less of another", x.reweigh(0, 160), -2);
+        c.due("from its receipt", x.receipt(3, 0), 98);
+        Grainledger y = withSilos(10000);
+        y.deliver(0, 0, 100, 140);
+        y.deliver(0, 0, 100, 140);
+        y.takeOut(1);
+        y.reweigh(1, 200);
+        c.due("others of a lower number too", y.receipt(0, 0), 93);
+        Grainledger full = withSilos(1000);
+        full.deliver(0, 0, 100, 141);
+        for (int i = 1; i < 80; i++) {
+            full.split(0, 1);
+        }
+        c.noState("one kilogram more, with 80 receipts", () -> full.reweigh(0, 140));
+    }
+
     private static void reweighOfASiloThatIsAnother() {
         Grainledger x = withSilos(1000);
         x.deliver(0, 0, 1000, 140);
@@ -770,6 +813,24 @@ public final class PromisesTest {
         c.due("shared", x.receipt(0, 0), 36100);
         c.due("to the last", x.receipt(24, 0), 36101);
         c.due("anew", x.contentAnew(0), 902510);
+    }
+
+    private static void shrinkageOfOneKilogram() {
+        Grainledger x = withSilos(1000000, 1000000);
+        x.terms(1, 20, 5);
+        x.deliver(0, 0, 40000, 140);
+        x.deliver(0, 0, 40000, 140);
+        x.deliver(0, 0, 19999, 140);
+        x.deliver(0, 1, 40000, 140);
+        x.deliver(0, 1, 40000, 140);
+        x.deliver(0, 1, 20000, 140);
+        x.pass(1);
+        c.due("of 99999 nothing", x.ofSilo(0, 3), 0);
+        c.due("of 100000 one", x.ofSilo(1, 3), 1);
+        c.due("of the greatest part, the lowest number", x.receipt(3, 0), 39999);
+        c.due("of no other", x.receipt(4, 0), 40000);
+        x.pass(30);
+        c.due("of 99999 no day", x.ofSilo(1, 3), 1);
     }
 
     private static void dayInItsOrder() {
