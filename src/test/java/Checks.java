@@ -44,8 +44,15 @@ final class Checks {
         try {
             return Long.toString(call.run());
         } catch (RuntimeException e) {
-            return "throws." + e.getClass().getSimpleName();
+            return "throws." + e.getClass().getSimpleName() + (isByTheMachine(e) ? " by the machine" : "");
         }
+    }
+
+    /** What the program throws, it throws by its own lines, and not by those of the library. */
+    private static boolean isByTheMachine(RuntimeException e) {
+        StackTraceElement[] trace = e.getStackTrace();
+        return trace.length == 0 || trace[0].getClassName().startsWith("java.")
+                || trace[0].getClassName().startsWith("jdk.");
     }
 
     boolean hasWrong() {
