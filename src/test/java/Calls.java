@@ -53,12 +53,16 @@ final class Calls {
         return out.toString();
     }
 
+    /** Of each number up to the first that is none. */
     private static void ask(StringBuilder out, Grainledger x, String name, int count, int whats) {
-        for (int i = 0; i < count; i++) {
+        boolean isThere = true;
+        for (int i = 0; i < count && isThere; i++) {
             out.append(' ').append(name).append(i);
-            for (int what = 0; what < whats; what++) {
+            for (int what = 0; what < whats && isThere; what++) {
                 int[] a = {i, what};
-                out.append(',').append(Checks.outcome(() -> call(x, name, a)));
+                String outcome = Checks.outcome(() -> call(x, name, a));
+                out.append(',').append(outcome);
+                isThere = !outcome.startsWith("throws.");
             }
         }
     }

@@ -122,6 +122,9 @@ public final class EdgesOfDaysTest {
         shared(5000, new int[] {6, 7, 7}, new int[] {6, 6, 7});
         shared(5000, new int[] {1, 2, 3, 4, 5, 6, 19}, new int[] {1, 2, 3, 4, 5, 5, 18});
         shared(999, new int[] {100, 99}, new int[] {99, 99});
+        // By the content behind the loss, or between two receipts, others would be first.
+        shared(5000, new int[] {10, 30, 60}, new int[] {9, 29, 57});
+        shared(5000, new int[] {60, 10, 30}, new int[] {57, 9, 29});
         nothingIsBorneByWhatIsOut();
         theLargestProduct();
     }
@@ -293,6 +296,13 @@ public final class EdgesOfDaysTest {
         }
         s.due("the seller's", x.receipt(5, 7), 0);
         s.due("is all that is handed over", x.ofContract(0, 2), 100);
+        Grainledger again = Recipes.withReceipts(100);
+        again.contract(0, 1, 0, 0, 100, 1, 0);
+        again.contract(1, 2, 0, 0, 99, 2, 0);
+        again.pass(2);
+        s.due("what was handed over can be handed over again", again.ofContract(1, 2), 99);
+        s.due("what is left of it stays", again.receipt(0, 1), 1);
+        s.due("with the contract that it had", again.receipt(0, 7), 0);
         Grainledger two = Recipes.withSilos(100, 100);
         two.deliver(0, 2, 100, 300);
         two.deliver(0, 2, 100, 300);

@@ -92,6 +92,11 @@ public final class EdgesOfWeightsTest {
         s.due("a receipt for all, whatever is owed", owing.receipt(2, 0), 87);
         s.due("of the one who delivered", owing.receipt(2, 1), 0);
         s.due("others have no part", owing.receipt(1, 0), 900);
+        Grainledger sold = withNineHundred(900);
+        sold.sell(0, 1, 0);
+        sold.reweigh(0, 140);
+        s.due("not of the one who has all else of it", sold.receipt(1, 1), 0);
+        s.due("who has what was there", sold.receipt(0, 0), 900);
         Grainledger last = Recipes.withSilos(1000);
         last.deliver(0, 0, 860, 141);
         for (int i = 1; i < 79; i++) {

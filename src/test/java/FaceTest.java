@@ -126,9 +126,11 @@ public final class FaceTest {
             Matcher matcher = Pattern.compile(pattern).matcher(code);
             c.due("found: " + pattern, matcher.find() ? 1 : 0, 0);
         }
-        String imports = Pattern.compile("(?m)^import .*$").matcher(code).results().map(m -> m.group())
-                .collect(Collectors.joining(","));
-        c.due("imports", imports, "import java.util.ArrayList;");
+        Matcher imported = Pattern.compile("(?m)^import .*$").matcher(code);
+        while (imported.find()) {
+            String library = "import java\\.util\\.(ArrayList|List|Iterator|Arrays|NoSuchElementException);";
+            c.due(imported.group() + " is left", imported.group().matches(library) ? 1 : 0, 1);
+        }
         Matcher thrown = Pattern.compile("\\bthrow\\b.*").matcher(code);
         while (thrown.find()) {
             String form = "throw new (" + INDEX + "|" + RANGE + "|" + STATE + ")\\(\"[^\"]*\"\\);";

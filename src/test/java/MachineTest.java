@@ -68,10 +68,15 @@ public final class MachineTest {
         Grainledger x = new Grainledger();
         x.silo(1000);
         x.deliver(0, 0, 1000, 140);
-        for (int day = 1; day < 6000; day++) {
-            x.sell(0, day % 6, 0);
-            x.pass(1);
-            c.due("its holder", x.receipt(0, 1), day % 6);
+        for (int i = 1; i < 6000; i++) {
+            int day = i;
+            c.due("the machine throws", isByTheMachine(() -> x.sell(0, day % 6, 0)) ? 1 : 0, 0);
+            c.due("the machine throws", isByTheMachine(() -> x.pass(1)) ? 1 : 0, 0);
+            c.due("the machine throws", isByTheMachine(() -> x.ownerOn(0, day / 2)) ? 1 : 0, 0);
         }
+    }
+
+    private static boolean isByTheMachine(Checks.Call call) {
+        return Checks.outcome(call).contains("machine");
     }
 }
